@@ -795,7 +795,10 @@ public final class DarkStreet {
         }
 
         int tillEnd() {
-            return said == NONE ? UNTIL_UNSAID : Math.max(0, said - now);
+            if (said == NONE) {
+                return UNTIL_UNSAID;
+            }
+            return said > now ? said - now : 0;
         }
 
         boolean isDue(int number) {
@@ -1167,8 +1170,23 @@ public final class DarkStreet {
                     return refuse(CANNOT_STAND);
                 }
                 next();
-            } else if (!readComparison()) {
-                return false;
+            } else {
+                if (!readSum()) {
+                    return false;
+                }
+                int sign = token;
+                if (!compares(sign)) {
+                    return refuse(CANNOT_STAND);
+                }
+                if (counted >= MOST_COUNTED) {
+                    return refuse(TOO_MANY);
+                }
+                counted++;
+                next();
+                if (!readSum()) {
+                    return false;
+                }
+                rule.put(sign);
             }
             if ((deep - depth) % 2 == 1) {
                 rule.put(Rule.NOT);
@@ -1176,27 +1194,7 @@ public final class DarkStreet {
             return true;
         }
 
-        private boolean readComparison() {
-            if (!readSum()) {
-                return false;
-            }
-            int sign = token;
-            if (!isComparing(sign)) {
-                return refuse(CANNOT_STAND);
-            }
-            if (counted >= MOST_COUNTED) {
-                return refuse(TOO_MANY);
-            }
-            counted++;
-            next();
-            if (!readSum()) {
-                return false;
-            }
-            rule.put(sign);
-            return true;
-        }
-
-        private static boolean isComparing(int token) {
+        private static boolean compares(int token) {
             return token == Rule.LESS || token == Rule.EQUAL || token == Rule.MORE
                     || token == Rule.AT_MOST || token == Rule.AT_LEAST;
         }
@@ -1205,10 +1203,14 @@ public final class DarkStreet {
             int sign = 0;
             int waiting = 0;
             boolean more = true;
-            for (int i = 0; more && i < length; i++) {
-                if (!readValue()) {
-                    return false;
+            for (int i = 0; more && i <= length; i++) {
+                int kind = faultOfValue();
+                if (kind != NONE) {
+                    return refuse(kind);
                 }
+                counted++;
+                rule.put(token == NUMBER ? Rule.NUMBERS + number : token);
+                next();
                 if (sign == Rule.TIMES || sign == Rule.BY) {
                     rule.put(sign);
                 }
@@ -1227,20 +1229,15 @@ public final class DarkStreet {
             return true;
         }
 
-        private boolean readValue() {
+        /** What is wrong with the token where a value should be; NONE if it is one. */
+        private int faultOfValue() {
             if (token != NUMBER && token >= Rule.VALUE_WORDS) {
-                return refuse(CANNOT_STAND);
+                return CANNOT_STAND;
             }
             if (token == NUMBER && number == NONE) {
-                return refuse(BAD_NUMBER);
+                return BAD_NUMBER;
             }
-            if (counted >= MOST_COUNTED) {
-                return refuse(TOO_MANY);
-            }
-            counted++;
-            rule.put(token == NUMBER ? Rule.NUMBERS + number : token);
-            next();
-            return true;
+            return counted >= MOST_COUNTED ? TOO_MANY : NONE;
         }
 
         /** Goes on to the next token of the text. */
@@ -1257,7 +1254,14 @@ public final class DarkStreet {
                 }
                 token = wordFrom(place, at);
             } else if (isDigit(text[at])) {
-                nextNumber();
+                token = NUMBER;
+                number = 0;
+                for (; at < length && isDigit(text[at]); at++) {
+                    if (at - place < MOST_DIGITS) {
+                        number = 10 * number + text[at] - '0';
+                    }
+                }
+                number = at - place > MOST_DIGITS ? NONE : number;
             } else {
                 token = Rule.SIGNS + text[at];
                 at++;
@@ -1265,19 +1269,6 @@ public final class DarkStreet {
                     token = token == Rule.LESS ? Rule.AT_MOST : Rule.AT_LEAST;
                     at++;
                 }
-            }
-        }
-
-        private void nextNumber() {
-            token = NUMBER;
-            number = 0;
-            for (; at < length && isDigit(text[at]); at++) {
-                if (at - place < MOST_DIGITS) {
-                    number = 10 * number + text[at] - '0';
-                }
-            }
-            if (at - place > MOST_DIGITS) {
-                number = NONE;
             }
         }
 
@@ -1499,8 +1490,9 @@ public final class DarkStreet {
 
         /** The least length of lines between the houses of a set, by way of no others. */
         private int lengthOf(Town town, int set) {
+            // It begins at the least house of the set; which one it is makes no difference.
             int left = set & set - 1;
-            int last = Integer.numberOfTrailingZeros(set);
+            int last = Integer.bitCount((set & -set) - 1);
             for (int h = 0; h < town.houses; h++) {
                 off[h] = Integer.MAX_VALUE;
             }

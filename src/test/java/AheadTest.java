@@ -154,6 +154,7 @@ public final class AheadTest {
         due("item 4", x.item(0, 4, 5, 3), 4);
         due("item 5", x.item(0, 4, 99999, 5), 5);
         due("item 6", x.item(0, 5, 1, 9999), 6);
+        due("six items", x.count(6), 6);
         due("item 7", x.item(0, 5, 1, 1), -1);
         due("no coins", x.common(rule, 0, 5, 0), 0);
         due("of those with one harm and price the least number", x.common(rule, 6, 5, 0), 12);
@@ -188,6 +189,7 @@ public final class AheadTest {
         y.item(0, 1, 99999, 1);
         y.item(0, 1, 99999, 1);
         int spoils = Checks.rule(y, "spoil 99998");
+        due("item of price 0", y.item(0, 0, 1, 0), 3);
         due("one left of a full store", y.common(spoils, 9, 1, 1), 1);
         due("and the first will do", y.common(spoils, 9, 1, 0), 1);
     }

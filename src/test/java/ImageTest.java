@@ -69,7 +69,10 @@ public final class ImageTest {
         all.append(x.gave(0, 1)).append(' ').append(x.gave(1, 0)).append(' ').append(x.carried(0)).append(' ');
         all.append(x.total(0, 9, 0)).append(' ').append(x.common(0, 9, 5, 0)).append(' ');
         all.append(x.should(0, 0)).append(' ').append(x.should(0, 1)).append(' ');
-        all.append(x.doors(0, 2, -1)).append(' ').append(x.rows(3, -1)).append(' ').append(x.loud()).append(' ');
+        all.append(x.doors(0, 2, -1)).append(' ').append(x.loud()).append(' ');
+        for (int n = 1; n <= 7; n++) {
+            all.append(x.rows(n, -1)).append(' ').append(x.rows(n, 0)).append(' ');
+        }
         for (int what = 0; what < 10; what++) {
             all.append(x.count(what)).append(' ');
         }
@@ -118,6 +121,34 @@ public final class ImageTest {
         x.store(0, 5, 77);
         x.back(1);
         due("an image made anew", after.equals(all(x)) ? 1 : 0, 1);
+        emptyBetween();
+    }
+
+    /** What an image holds does not hang on what was told where it was not yet made. */
+    private static void emptyBetween() {
+        DarkStreet x = new DarkStreet();
+        x.image(0);
+        x.house(0, 0, 0);
+        x.need(0, 4, 2, 3, 0, 95, false);
+        x.item(0, 4, 2, 5);
+        x.ends(3, 4);
+        x.maker(0, 3, 0, 4, 1, 50);
+        x.turner(0, 1, 0, 7);
+        Checks.rule(x, "hold 0");
+        String before = all(x);
+        x.image(3);
+        x.back(0);
+        due("nothing told", x.rows(1, -1), -2);
+        x.house(5, 5, 5);
+        x.house(6, 6, 6);
+        x.need(1, 5, 9, 9, 1, 95, true);
+        x.item(1, 3, 9, 9);
+        x.ends(2, 9);
+        x.maker(1, 2, 9, 5, 9, 9);
+        x.cable(0, 1, 7);
+        x.turner(0, 9, 9, 9);
+        x.back(3);
+        due("as it was", before.equals(all(x)) ? 1 : 0, 1);
     }
 
     private static void whatStays() {

@@ -52,6 +52,27 @@ public final class PeopleTest {
         y.need(1, 1, 4, 1, 0, 95, false);
         y.run(Checks.rule(y, "give 99"), 1);
         due("of several the least", y.debtor(), 1);
+        DarkStreet z = new DarkStreet();
+        for (int h = 0; h < 4; h++) {
+            z.house(h, 0, 0);
+            z.store(h, 4, 100);
+        }
+        // 3 gets 5 and gives 1, 2 gets 6 and gives 2, 1 gets 3 and gives 6, 0 gives 5.
+        int[][] gifts = {{0, 3, 5}, {1, 2, 6}, {2, 1, 2}, {3, 1, 1}};
+        for (int[] gift : gifts) {
+            z.store(gift[1], 4, 0);
+            z.tie(gift[0], gift[1], 1);
+            z.need(gift[1], 4, gift[2], 1, z.count(0), z.count(0), false);
+            z.run(z.count(5) == 0 ? Checks.rule(z, "give 99") : 0, 1);
+            z.tie(gift[0], gift[1], 0);
+            z.store(gift[1], 4, 100);
+        }
+        due("3 got 4 more, 2 as many", z.debtor(), 2);
+        z.tie(0, 3, 1);
+        z.store(3, 4, 0);
+        z.need(3, 4, 1, 1, z.count(0), z.count(0), false);
+        z.run(0, 1);
+        due("now 5", z.debtor(), 3);
     }
 
     private static void noise() {

@@ -62,7 +62,8 @@ public final class PlacesTest {
         due("odds -1", x.odds(3, -1), -1);
         due("odds house 8", x.odds(8, 1), -1);
         due("odds house -1", x.odds(-1, 1), -1);
-        due("odds stay", x.odds(3, 1), 1);
+        due("odds stay", x.odds(3, 0), 1);
+        due("odds 0", x.odds(3, 1), 0);
         due("no odds", x.doors(0, 0b11110110, -1), 0);
         due("seven are too many", x.doors(0, 0b11111110, 0), -1);
         due("six", x.doors(0, 0b01111110, -1), 30);
@@ -75,6 +76,10 @@ public final class PlacesTest {
         for (int k = 0; k < 4; k++) {
             due("door " + k, x.doors(4, 0b10101010, k), order[k]);
         }
+        x.odds(0, 1000);
+        due("house 0 in the set", x.doors(4, 0b10101011, 2), 0);
+        due("from its end", x.doors(0, 0b11111100, -1), 20 * 0 + 30 * 1 + 50 * 9 + 70 * 100);
+        x.odds(0, 0);
         due("k 4", x.doors(4, 0b10101010, 4), -1);
         due("k -2", x.doors(4, 0b10101010, -2), -1);
         due("none", x.doors(4, 0, -1), 0);
@@ -100,6 +105,14 @@ public final class PlacesTest {
         CHECKS.no("harm -1", x.turner(0, 1, 1, -1));
         CHECKS.no("harm 1000", x.turner(0, 1, 1, 1000));
         due("still none", x.rows(1, -1), -2);
+        DarkStreet y = new DarkStreet();
+        CHECKS.yes("turner 0", y.turner(0, 1, 0, 0));
+        due("turner 0 alone", y.rows(2, 1), 0);
+        CHECKS.yes("turner 0 in its place", y.turner(0, 1, 0, 7));
+        CHECKS.yes("turner 4", y.turner(4, 1, 20, 7));
+        due("0 has all turns", y.rows(7, -1), 0);
+        CHECKS.yes("turner 4 has none left", y.turner(4, 1, 0, 7));
+        due("one of both lacks it", y.rows(7, -1), 49);
         CHECKS.yes("turner 3", x.turner(3, 20, 20, 999));
         due("it alone", x.rows(7, -1), 0);
         due("has all turns", x.rows(7, 6), 3);

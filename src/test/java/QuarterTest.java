@@ -200,6 +200,7 @@ public final class QuarterTest {
         gets("give harm", 13);
         gets("give lack", 30);
         gets("give 3+own", 3);
+        gets("give lack/2", 15);
         gets("give store/5", 18);
         gets("give tie", 5);
         gets("give given", 2);
@@ -273,6 +274,25 @@ public final class QuarterTest {
         due("two off", x.of(3, 2), 0);
         due("the farthest", x.of(1, 2), 5);
         due("total of together", x.total(0, 1, 2), 10);
+        DarkStreet y = new DarkStreet();
+        y.house(50, 49, 0);
+        y.house(50, 50, 0);
+        y.house(51, 50, 0);
+        y.house(60, 50, 0);
+        for (int h = 0; h < 4; h++) {
+            if (h != 1) {
+                y.store(h, 2, 4);
+                y.tie(h, 1, 1);
+            }
+        }
+        y.need(1, 2, 6, 1, 0, 95, false);
+        int rule = Checks.rule(y, "give lack/2+1");
+        y.run(rule, 1);
+        due("house 0, one off, first", y.of(0, 2), 0);
+        due("then the other one off, by what is lacking still", y.of(2, 2), 2);
+        due("none of the farthest", y.of(3, 2), 4);
+        due("together it is gone in the first", y.total(rule, 1, 2), 0);
+        due("and none is left for the second", y.total(rule, 2, 2), 6);
     }
 
     private static void holdAndClamp() {
@@ -328,8 +348,8 @@ public final class QuarterTest {
         x.house(0, 0, 0);
         x.store(0, 4, 5);
         x.store(0, 5, 4);
-        x.need(0, 4, 5, 0, 0, 95, true);
         x.need(0, 5, 5, 0, 0, 0, true);
+        x.need(0, 4, 5, 0, 0, 95, true);
         x.need(0, 5, 5, 0, 1, 95, true);
         x.need(0, 5, 5, 0, 0, 95, false);
         x.need(0, 2, 1, 0, 0, 1, true);

@@ -58,6 +58,16 @@ public final class RuleTest {
         CHECKS.due("eight", x.count(5), 8);
         x.house(0, 0, 0);
         x.need(0, 0, 1, 1, 0, 0, false);
+        DarkStreet y = new DarkStreet();
+        y.house(0, 0, 0);
+        y.need(0, 0, 1, 1, 0, 0, false);
+        CHECKS.due("nothing is left of one that could not be read", Checks.rule(y, "first 1;spoil"), Checks.fault(13, 0));
+        CHECKS.due("a rule", Checks.rule(y, "first 2 if 2<1;hold 3;first 3"), 0);
+        CHECKS.due("by the rule alone", y.ahead(0, 0), 3);
+        CHECKS.due("ahead without a need", y.ahead(0, 1), 0);
+        CHECKS.due("ahead without a need", y.ahead(0, 2), 0);
+        CHECKS.due("60 values", Checks.rule(y, "first 1" + Checks.times("+1", 59)), 1);
+        CHECKS.due("60 values again", Checks.rule(y, "first 1" + Checks.times("+1", 59)), 2);
         CHECKS.due("ahead without the rule", x.ahead(8, 0), 0);
         CHECKS.due("ahead with rule -1", x.ahead(-1, 0), 0);
         CHECKS.due("ahead without the need", x.ahead(0, 1), 0);
@@ -86,6 +96,9 @@ public final class RuleTest {
         refused("spoil not", 6, 0);
         refused("spoil colds", 6, 0);
         refused("spoil co", 6, 0);
+        refused("spoil coldz", 6, 0);
+        refused("spoil acold", 6, 0);
+        refused("spoil coldcold", 6, 0);
         refused("spoil Cold", 6, 0);
         refused("spoil 1\n", 7, 0);
         refused("spoil 1\t", 7, 0);
@@ -223,6 +236,10 @@ public final class RuleTest {
         first("first 8 if not " + yes + " or " + yes, 8);
         first("first 8 if not [" + no + " or " + yes + "]", 0);
         first("first 8 if not not " + yes, 8);
+        first("first 8 if " + yes + " or " + no + " or " + no, 8);
+        first("first 8 if " + no + " or " + yes + " or " + no + " and " + no, 8);
+        first("first 8 if " + yes + " and " + no + " and " + yes, 0);
+        first("first 8 if [" + yes + " and [" + no + " or not [" + yes + " and " + no + "]]] and " + yes, 8);
         first("first 8 if not not not " + yes, 0);
         first("first 8 if not [not " + yes + "] and not [" + no + " and " + yes + "]", 8);
         first("first 8 if 1-2<0", 8);

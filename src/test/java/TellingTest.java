@@ -115,7 +115,9 @@ public final class TellingTest {
             due("due at 0 alone, " + now, x.needs(1, 7), time == 0 ? 1 : 0);
             x.run(0, 1);
         }
-        for (int i = 2; i < 40; i++) {
+        due("need from 95", x.need(0, 0, 1, 1, 95, 95, false), 2);
+        due("need from 96", x.need(0, 0, 1, 1, 96, 96, false), -1);
+        for (int i = 3; i < 40; i++) {
             due("need " + i, x.need(0, 0, 1, 1, 0, 1, false), i);
         }
         due("a forty-first need", x.need(0, 0, 1, 1, 0, 1, false), -1);

@@ -308,6 +308,14 @@ public final class QuarterTest {
         due("hold is for giving alone", x.of(1, 4), 6);
         due("harm", x.harm(0) + x.harm(1), 0);
         due("all gone but what was held", x.run(0, 1), 5);
+        DarkStreet y = new DarkStreet();
+        y.house(0, 0, 0);
+        y.house(1, 0, 0);
+        y.tie(1, 0, 1);
+        y.store(1, 4, 12);
+        y.need(0, 4, 5, 1, 0, 95, false);
+        due("held, then a fault", Checks.rule(y, "hold 10;give"), Checks.fault(12, 0));
+        due("nothing is held without hold", y.total(Checks.rule(y, "give 9"), 2, 0), 0);
     }
 
     private static void hiddenNeeds() {

@@ -1468,6 +1468,8 @@ public final class DarkStreet {
 
     /** Lines from house to house, and the order of doors. */
     private static final class Walks {
+        private static final int FARTHER_THAN_ALL = 1000;
+
         /** How far a house is from those that hang together already. */
         private final int[] off = new int[MOST_HOUSES];
         private final int[] order = new int[MOST_DOORS];
@@ -1494,7 +1496,7 @@ public final class DarkStreet {
             int left = set & set - 1;
             int last = Integer.bitCount((set & -set) - 1);
             for (int h = 0; h < town.houses; h++) {
-                off[h] = Integer.MAX_VALUE;
+                off[h] = FARTHER_THAN_ALL;
             }
             int length = 0;
             for (int i = 0; i < MOST_HOUSES && left != 0; i++) {
@@ -1582,6 +1584,8 @@ public final class DarkStreet {
 
     /** Who has the turn at a maker. */
     private static final class Turns {
+        private static final int MORE_THAN_ALL_HARM = 1000000;
+
         /** What is left of each turner, and the harm together, before each turn of the row. */
         private final int[][] left = new int[MOST_TURNS + 1][MOST_TURNERS];
         private final int[] harm = new int[MOST_TURNS + 1];
@@ -1590,7 +1594,7 @@ public final class DarkStreet {
 
         /** Finds the best row of n turns: its harm. Rows are tried by their turners' numbers. */
         int leastHarm(Town town, int n) {
-            int least = Integer.MAX_VALUE;
+            int least = MORE_THAN_ALL_HARM;
             for (int t = 0; t < MOST_TURNERS; t++) {
                 left[0][t] = town.turner[t][LEFT];
             }

@@ -1387,7 +1387,7 @@ public final class DarkStreet {
             int own = Math.min(need[MUCH], row[need[GOOD]]);
             row[need[GOOD]] -= own;
             int lack = need[MUCH] - own;
-            boolean asks = kind == TOGETHER || kind == BY_RULE && need[KNOWN] == 1;
+            boolean asks = kind != ALONE && (kind == TOGETHER || need[KNOWN] == 1);
             if (asks && lack > 0) {
                 tellNeed(town, need);
                 for (int i = 0; i < town.houses - 1 && lack > 0; i++) {

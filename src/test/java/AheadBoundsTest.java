@@ -20,6 +20,7 @@ public final class AheadBoundsTest {
         aheadGoesOnBeyond9999();
         notAboveSoManyCoins();
         leastPriceThenNumber();
+        commonByTheRule();
         storesAtMost();
         noItems();
         endsNearEnough();
@@ -31,15 +32,8 @@ public final class AheadBoundsTest {
         CHECKS.close();
     }
 
-    /** A street of so many houses along a line, one beside the other, and a rule. */
     private static Talk houses(String about, int n, String rule) {
-        Talk talk = new Talk(CHECKS, about);
-        for (int h = 0; h < n; h++) {
-            talk.due(h, "house", h, 0, 0);
-        }
-        talk.feed(0, rule);
-        talk.due(0, "rule");
-        return talk;
+        return Talk.street(CHECKS, about, n, rule);
     }
 
     /** Goes on to a quarter. */
@@ -320,6 +314,20 @@ public final class AheadBoundsTest {
         talk.ask("item", 0, 4, 1, 0);
         talk.due(16, "common", 0, 99, 1, 0);
         talk.due(48, "common", 0, 99, 2, 0);
+    }
+
+    /** By the rule one HOUSE gives another one what was bought for it, as far as that is told. */
+    private static void commonByTheRule() {
+        Talk talk = houses("COMMON: HARM AHEAD (KIND 0)", 2, "give 2;hold 1");
+        talk.ask("tie", 1, 0, 1);
+        talk.ask("need", 0, 4, 5, 1, 0, 95, 0);
+        talk.ask("item", 1, 4, 9, 5);
+        talk.due(1, "common", 0, 5, 1, 0);
+        talk.due(3, "common", 0, 5, 1, 1);
+        talk.due(20 - 8, "common", 0, 5, 4, 1);
+        talk.ask("tie", 1, 0, 0);
+        talk.due(0, "common", 0, 5, 1, 0);
+        talk.due(5, "common", 0, 5, 1, 1);
     }
 
     private static void storesAtMost() {

@@ -9,6 +9,7 @@ public final class PlacesBoundsTest {
     public static void main(String[] args) {
         reachOfNoneOrOne();
         reachByWayOfOthers();
+        reachByWayOfEach();
         reachOfAll();
         setsOfHousesThereAre();
         sixDoorsAtMost();
@@ -95,6 +96,27 @@ public final class PlacesBoundsTest {
         two.due(90, "reach", 15);
         two.due(50, "reach", 5);
         two.due(60, "reach", 2 | 1 << 7);
+    }
+
+    /** Whichever number the house has that helps. */
+    private static void reachByWayOfEach() {
+        int[][] ends = {{10, 0}, {0, 10}, {20, 10}, {10, 20}};
+        for (int helper = 0; helper <= 4; helper++) {
+            Talk talk = talk("by way of HOUSE " + helper);
+            int next = 0;
+            for (int h = 0; h <= 4; h++) {
+                if (h == helper) {
+                    talk.due(h, "house", 10, 10, 0);
+                } else {
+                    talk.due(h, "house", ends[next][0], ends[next][1], 0);
+                    next++;
+                }
+            }
+            talk.due(40, "reach", 31 - (1 << helper));
+            talk.due(40, "reach", 31);
+            int first = helper == 0 ? 2 : 1;
+            talk.due(30, "reach", 31 - (1 << helper) - first);
+        }
     }
 
     private static void reachOfAll() {

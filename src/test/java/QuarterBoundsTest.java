@@ -33,15 +33,8 @@ public final class QuarterBoundsTest {
         CHECKS.close();
     }
 
-    /** A street of so many houses along a line, one beside the other, and a rule. */
     private static Talk houses(String about, int n, String rule) {
-        Talk talk = new Talk(CHECKS, about);
-        for (int h = 0; h < n; h++) {
-            talk.due(h, "house", h, 0, 0);
-        }
-        talk.feed(0, rule);
-        talk.due(0, "rule");
-        return talk;
+        return Talk.street(CHECKS, about, n, rule);
     }
 
     private static void runOf1To60() {
@@ -212,6 +205,10 @@ public final class QuarterBoundsTest {
             // House 1 lacks now and is given: words of needs and of givers have been told.
             talk.ask("run", 0, 1);
             talk.due(9, "gave", 0, 1);
+            if ("store tie given got far".contains(word)) {
+                // In first those of one who gives 0.
+                talk.due(0, "ahead", 0, 1);
+            }
             for (int h = 0; h < 3; h++) {
                 talk.ask("store", h, 1, 99);
             }
@@ -444,6 +441,24 @@ public final class QuarterBoundsTest {
         both.due(1, "run", 0, 1);
         both.due(1, "gave", 0, 1);
         both.due(1, "gave", 1, 0);
+        Talk each = houses("each CABLE for itself, whichever HOUSE was told first", 4, "give 99");
+        int[][] ends = {{0, 1, 2}, {0, 2, 5}, {3, 0, 4}, {2, 1, 9}};
+        for (int[] cable : ends) {
+            each.ask("cable", cable[0], cable[1], cable[2]);
+        }
+        for (int h = 1; h < 4; h++) {
+            each.ask("store", h, 0, 50);
+        }
+        each.ask("need", 0, 0, 20, 1, 0, 95, 0);
+        each.ask("need", 1, 0, 57, 1, 0, 95, 0);
+        // 0 has 2 of house 1, 5 of house 2 and 4 of house 3; of the 9 that 1 lacks then 0 has none, 2 has all.
+        each.due(20 - 2 - 5 - 4, "run", 0, 1);
+        int[] carried = {2, 5, 4, 9};
+        for (int c = 0; c < 4; c++) {
+            each.due(carried[c], "carried", c);
+        }
+        each.due(4, "gave", 3, 0);
+        each.due(0, "gave", 3, 1);
         Talk most = houses("carry (1 to 9999)", 2, "give 9999");
         most.ask("cable", 0, 1, 9999);
         most.ask("store", 1, 0, 99999);

@@ -26,11 +26,13 @@ public final class RuleBoundsTest {
         deepestSums();
         sixtyTogether();
         twelveClauses();
+        nothingIsLeftOfFaults();
         ofOnePlaceTheLeast();
         theFirstAlongTheText();
         byTowards0();
         roundIn64Bits();
         comparing();
+        factsTogether();
         theFirstOfItsSort();
         aheadWithoutThese();
         CHECKS.close();
@@ -450,6 +452,30 @@ public final class RuleBoundsTest {
         first(Checks.times("first 1 if 2<1;", 11) + "first 7", 7);
         first(Checks.times("first 1 if 2<1;", 11) + "first 7 if 1<2", 7);
         first(Checks.times("first 1 if 2<1;", 11) + "hold 7", 0);
+        first(Checks.times("first 1 if 2<1;", 11) + "first 7 if 2<1", 0);
+        first(Checks.times("give 1;", 11) + "first 7", 7);
+        first(Checks.times("give 1;", 11) + "spoil 7", 0);
+        first("first 7;" + Checks.times("give 1;", 11).substring(0, 76), 7);
+    }
+
+    /** However often a text of the same number could not be read before. */
+    private static void nothingIsLeftOfFaults() {
+        Talk talk = new Talk(CHECKS, "behind faults");
+        talk.ask("house", 0, 0, 0);
+        talk.ask("need", 0, 4, 1, 1, 0, 0, 0);
+        String sixty = "first 1" + Checks.times("+1", 59);
+        for (int i = 0; i < 8; i++) {
+            talk.feed(0, "hold 9;" + sixty + "+1");
+            talk.due(Checks.fault(133, TOO_MANY), "rule");
+        }
+        talk.feed(0, sixty);
+        talk.due(0, "rule");
+        talk.due(60, "ahead", 0, 0);
+        talk.feed(0, "first 123456");
+        talk.due(Checks.fault(6, BAD_NUMBER), "rule");
+        talk.feed(0, "first good*good if good>cold");
+        talk.due(1, "rule");
+        talk.due(16, "ahead", 1, 0);
     }
 
     private static void ofOnePlaceTheLeast() {
@@ -470,6 +496,15 @@ public final class RuleBoundsTest {
         refused("first 1" + Checks.times("+1", 60) + "+]", 126, TOO_MANY);
         refused("hold 1;hold 100000", 7, ONE_CLAUSE_MORE);
         refused("hold 1;first 100000;hold 1", 13, BAD_NUMBER);
+        refused("first 1 if 1< and 1<", 14, CANNOT_STAND);
+        refused("first 1 if 1+ and 1<", 14, CANNOT_STAND);
+        refused("first 1 if 1<2+ or 1<", 16, CANNOT_STAND);
+        refused("first 1 if [1< ] and 1<", 15, CANNOT_STAND);
+        refused("first 1 if [1<2 and ] and 1<", 20, CANNOT_STAND);
+        refused("first 1 if and and 1<", 11, CANNOT_STAND);
+        refused("first 1+ if 1<", 9, CANNOT_STAND);
+        refused("first ; give 100000", 6, CANNOT_STAND);
+        refused("hold 10000 ; give 100000", 5, BAD_NUMBER);
     }
 
     private static void byTowards0() {
@@ -518,6 +553,31 @@ public final class RuleBoundsTest {
             first("first 8 if " + LEAST + signs[i] + "0", less[i] ? 8 : 0);
             first("first 8 if " + LEAST + "-1" + signs[i] + LEAST, more[i] ? 8 : 0);
             first("first 8 if 65536*65536" + signs[i] + "0", more[i] ? 8 : 0);
+        }
+    }
+
+    /** Each sign, holding and not, beside each other one: not, and, or make of them what is due. */
+    private static void factsTogether() {
+        String[] holds = {"1<2", "1<=2", "2<=2", "2=2", "2>=2", "2>=1", "2>1"};
+        String[] fails = {"2<2", "2<1", "2<=1", "1=2", "1>=2", "2>2", "1>2"};
+        for (String yes : holds) {
+            first("first 8 if " + yes, 8);
+            first("first 8 if not " + yes, 0);
+            first("first 8 if not not " + yes, 8);
+            for (String other : holds) {
+                first("first 8 if " + yes + " and " + other, 8);
+                first("first 8 if not [" + yes + " and " + other + "]", 0);
+                first("first 8 if not [" + yes + " or " + other + "]", 0);
+                first("first 8 if not " + yes + " or not " + other, 0);
+            }
+            for (String no : fails) {
+                first("first 8 if " + yes + " and " + no, 0);
+                first("first 8 if " + no + " and " + yes, 0);
+                first("first 8 if " + yes + " or " + no, 8);
+                first("first 8 if " + no + " or " + yes, 8);
+                first("first 8 if not " + no + " and " + yes, 8);
+                first("first 8 if " + no + " or " + no, 0);
+            }
         }
     }
 

@@ -19,6 +19,17 @@ final class Talk {
         this.about = about;
     }
 
+    /** A street of so many houses along a line, one beside the other, and a rule. */
+    static Talk street(Checks checks, String about, int houses, String rule) {
+        Talk talk = new Talk(checks, about);
+        for (int h = 0; h < houses; h++) {
+            talk.due(h, "house", h, 0, 0);
+        }
+        talk.feed(0, rule);
+        talk.due(0, "rule");
+        return talk;
+    }
+
     long ask(String name, int... a) {
         calls++;
         if (calls == MOST_CALLS + 1) {
